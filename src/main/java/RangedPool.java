@@ -391,10 +391,9 @@ public final class RangedPool {
             owner = anOwner;
             lo = aLo;
             hi = aHi;
-            growth[0] = 0;
-            growth[1] = 0;
         }
 
+        /** Also clears the growth that the place of a new lot had before: with no liquidity yet, it adds nothing. */
         private void settle() {
             for (int token = 0; token < TOKENS; token++) {
                 owed[token] += growth[token] * liquidity / TWO_TO_32;

@@ -2,6 +2,7 @@
 public final class Promise04MintTest {
     public static void main(String[] args) {
         paysByPlace();
+        priceInsideAStep();
         stepBelowItsPrice();
         growsAndSettles();
         codes();
@@ -32,6 +33,20 @@ public final class Promise04MintTest {
         Check.due("1 liquidity is rounded up", pool.mint(0, -1, 1, 1), Check.pair(1, 1));
         Check.due("0 .. 1 has no token 1 at its foot", pool.mint(0, 0, 1, 1000), Check.pair(25, 0));
         Check.due("-1 .. 0 has token 1 alone", pool.mint(0, -1, 0, 1000), Check.pair(0, 25));
+    }
+
+    /** The price is 66536, above P(0) and below P(1). */
+    private static void priceInsideAStep() {
+        RangedPool pool = Check.richPool(1, 0, 0);
+        pool.mint(0, -24, 24, 65536);
+        pool.swap(0, false, 1000, 24);
+        Check.due("price", pool.price(), 66536);
+        Check.due("up to the step: all of it is token 1", pool.mint(1, -1, 0, 1000), Check.pair(0, 25));
+        Check.due("from the step: some of both", pool.mint(1, 0, 1, 1000), Check.pair(10, 16));
+        Check.due("from the next: all of it is token 0", pool.mint(1, 1, 2, 1000), Check.pair(24, 0));
+        Check.due("rounded down, up to the step", pool.burn(1, -1, 0, 1000), Check.pair(0, 24));
+        Check.due("rounded down, from the step", pool.burn(1, 0, 1, 1000), Check.pair(9, 15));
+        Check.due("rounded down, from the next", pool.burn(1, 1, 2, 1000), Check.pair(23, 0));
     }
 
     /** After a marked step is crossed downwards the price is its price, and the step is the one below. */

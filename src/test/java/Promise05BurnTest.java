@@ -5,6 +5,7 @@ public final class Promise05BurnTest {
         settlesFirst();
         onlySettles();
         goesAtOnce();
+        staysForOneToken();
         codes();
         Check.end();
     }
@@ -72,6 +73,20 @@ public final class Promise05BurnTest {
         Check.due("worth nothing", pool.burn(0, -1, 1, 5), 0);
         Check.due("owed nothing: gone", pool.lot(0, -1, 1, 0), RangedPool.NO_LOT);
         Check.due("gone", pool.burn(0, -1, 1, 0), RangedPool.NO_LOT);
+    }
+
+    private static void staysForOneToken() {
+        RangedPool pool = Check.richPool(1, 3, 0);
+        pool.mint(0, 1, 2, 1000);
+        pool.mint(0, -2, -1, 1000);
+        pool.burn(0, 1, 2, 1000);
+        pool.burn(0, -2, -1, 1000);
+        Check.due("owed token 0 alone", pool.lot(0, 1, 2, 1), 23);
+        Check.due("owed token 1 alone", pool.lot(0, -2, -1, 2), 23);
+        Check.due("collect", pool.collect(0, 1, 2), Check.pair(23, 0));
+        Check.due("collect", pool.collect(0, -2, -1), Check.pair(0, 23));
+        Check.due("gone", pool.lot(0, 1, 2, 0), RangedPool.NO_LOT);
+        Check.due("gone", pool.lot(0, -2, -1, 0), RangedPool.NO_LOT);
     }
 
     private static void codes() {

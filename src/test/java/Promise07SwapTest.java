@@ -4,7 +4,10 @@ public final class Promise07SwapTest {
         paysIn();
         takesOut();
         feeOfTheRest();
+        justEnough();
+        atMostWhatIsWanted();
         crosses();
+        overAGap();
         stopsAtTheLimit();
         withoutLiquidity();
         belowTheLowestStep();
@@ -69,6 +72,66 @@ public final class Promise07SwapTest {
         Check.due("up: is all fee", pool.swap(1, false, 1, 24), Check.pair(1, 0));
         pool.burn(0, -24, 24, 0);
         Check.due("up", pool.lot(0, -24, 24, 2), 1);
+    }
+
+    /** Between steps -1 and 1 a liquidity of 30000 holds 731 of token 1 below step 0 and of token 0 above it. */
+    private static RangedPool narrow() {
+        RangedPool pool = Check.richPool(1, 0, 0);
+        pool.mint(0, -1, 1, 30000);
+        return pool;
+    }
+
+    private static void justEnough() {
+        dueAt(narrow(), true, -731, 751, 731, 63937, -2);
+        dueAt(narrow(), true, -730, 749, 730, 63941, -1);
+        dueAt(narrow(), false, -731, 750, 731, 67174, 1);
+        dueAt(narrow(), false, -730, 749, 730, 67171, 0);
+        dueAt(narrow(), true, 751, 751, 731, 63937, -2);
+        dueAt(narrow(), true, 750, 750, 731, 63938, -1);
+        dueAt(narrow(), false, 750, 750, 731, 67174, 1);
+        dueAt(narrow(), false, 749, 749, 730, 67172, 0);
+    }
+
+    private static void dueAt(RangedPool pool, boolean down, int amount, long paid, long given, int price, int step) {
+        String call = "swap " + (down ? "down " : "up ") + amount;
+        Check.due(call, pool.swap(1, down, amount, down ? -24 : 24), Check.pair(paid, given));
+        Check.due(call + ": price", pool.price(), price);
+        Check.due(call + ": step", pool.step(), step);
+    }
+
+    private static void atMostWhatIsWanted() {
+        RangedPool pool = Check.richPool(1, 0, 0);
+        pool.mint(0, -1, 1, 1000000);
+        Check.due("a price down is worth 15", pool.quote(true, -1, -24), Check.pair(16, 1));
+        Check.due("a price up is worth 15", pool.quote(false, -1, 24), Check.pair(16, 1));
+        Check.due("1 less than there is", pool.swap(1, true, -24397, -24), Check.pair(25009, 24397));
+        Check.due("brings the price to the step by its rounding", pool.price(), 63937);
+        Check.due("and over it", pool.step(), -2);
+    }
+
+    private static void overAGap() {
+        RangedPool pool = gap(0);
+        Check.due("into the lower lot", pool.swap(1, true, -100, -24), Check.pair(111, 100));
+        Check.due("price", pool.price(), 62277);
+        Check.due("step", pool.step(), -3);
+        pool = gap(0);
+        Check.due("into the upper lot", pool.swap(1, false, 100, 24), Check.pair(100, 90));
+        Check.due("price", pool.price(), 68953);
+        Check.due("step", pool.step(), 2);
+        pool = gap(3);
+        Check.due("from the upper through the lower", pool.swap(1, true, -5000, -24), Check.pair(5010, 4728));
+        Check.due("price", pool.price(), 36223);
+        pool = gap(-3);
+        Check.due("from the lower into the upper", pool.swap(1, false, 5000, 24), Check.pair(5000, 4721));
+        Check.due("price", pool.price(), 72331);
+        Check.due("step", pool.step(), 3);
+    }
+
+    private static RangedPool gap(int step) {
+        RangedPool pool = Check.richPool(1, 0, step);
+        pool.mint(0, -4, -2, 65536);
+        pool.mint(0, 2, 4, 65536);
+        return pool;
     }
 
     private static void crosses() {
