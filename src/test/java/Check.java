@@ -2,16 +2,27 @@ import java.math.BigInteger;
 
 /** What all tests use: counting wrong answers, and the document's formulas in BigInteger. */
 final class Check {
-    static final int[] WILD = {Integer.MIN_VALUE, -1000000000, -25, -1, 0, 1, 25, 1000000000, Integer.MAX_VALUE};
+    /** No owner, on either side. */
+    static final int[] NO_OWNERS = {-1, 4, Integer.MIN_VALUE, Integer.MAX_VALUE};
+    /** No token, on either side. */
+    static final int[] NO_TOKENS = {-1, 2, Integer.MIN_VALUE, Integer.MAX_VALUE};
+    /** No step, on either side. */
+    static final int[] NO_STEPS = {-25, 25, Integer.MIN_VALUE, Integer.MAX_VALUE};
+
     private static int wrong = 0;
+    private static String sentence = "";
 
     private Check() {
     }
 
+    /** The sentence of the document that is tested from here on; it is told with every wrong answer. */
+    static void sentence(String text) {
+        sentence = text;
+    }
+
     static void due(String what, long got, long want) {
         if (got != want) {
-            wrong++;
-            System.out.println(what + ": answered " + got + ", due is " + want);
+            fail(what + ": answered " + got + ", due is " + want);
         }
     }
 
@@ -21,6 +32,27 @@ final class Check {
 
     static void no(String what, boolean got) {
         due(what, got ? 1 : 0, 0);
+    }
+
+    /** The call answers this code (0 for false), and every answer that the face can show is the same behind it. */
+    static void refused(String what, Pool pool, long code, Pool.Call call) {
+        unchanged(what, pool, code, call);
+        yes(what + ": is a code, or false", code <= 0);
+    }
+
+    /** The call answers this, and every answer that the face can show is the same behind it. */
+    static void unchanged(String what, Pool pool, long want, Pool.Call call) {
+        View before = View.of(pool);
+        due(what, pool.answer(call), want);
+        String difference = View.of(pool).differenceFrom(before);
+        if (difference != null) {
+            fail(what + ": changed something: " + difference);
+        }
+    }
+
+    private static void fail(String text) {
+        wrong++;
+        System.out.println("\"" + sentence + "\"\n  " + text);
     }
 
     static void end() {
@@ -66,10 +98,15 @@ final class Check {
         return divide(product(w, b - a), product(65536), up);
     }
 
+    static Pool openPool(int spacing, int fee, int step) {
+        Pool pool = new Pool(spacing, fee);
+        yes("open(" + step + ")", pool.open(step));
+        return pool;
+    }
+
     /** An open pool whose four owners have 1000000000 of each token. */
-    static RangedPool richPool(int spacing, int fee, int step) {
-        RangedPool pool = new RangedPool(spacing, fee);
-        yes("open", pool.open(step));
+    static Pool richPool(int spacing, int fee, int step) {
+        Pool pool = openPool(spacing, fee, step);
         for (int owner = 0; owner < 4; owner++) {
             yes("fund", pool.fund(owner, 0, 1000000000));
             yes("fund", pool.fund(owner, 1, 1000000000));
@@ -77,32 +114,20 @@ final class Check {
         return pool;
     }
 
-    /** Everything that can be asked without a change, but for the lots of which the ranges are not given. */
-    static String state(RangedPool pool, int[]... ranges) {
-        StringBuilder all = new StringBuilder();
-        all.append(pool.price()).append(' ').append(pool.step()).append(' ').append(pool.depth());
-        for (int owner = 0; owner < 4; owner++) {
-            all.append(' ').append(pool.wallet(owner, 0)).append(' ').append(pool.wallet(owner, 1));
-            for (int[] range : ranges) {
-                for (int what = 0; what < 3; what++) {
-                    all.append(' ').append(pool.lot(owner, range[0], range[1], what));
-                }
-            }
-        }
-        all.append(' ').append(pool.reserve(0)).append(' ').append(pool.reserve(1));
-        for (int step = -25; step <= 25; step++) {
-            all.append(' ').append(pool.net(step));
-        }
-        for (int ago = 0; ago < 30; ago++) {
-            all.append(' ').append(pool.observe(ago));
-        }
-        return all.toString();
+    /** The price and the step, which a swap moves together. */
+    static void at(String what, Pool pool, int price, int step) {
+        due(what + ": price", pool.price(), price);
+        due(what + ": step", pool.step(), step);
     }
 
-    static void same(String what, String got, String want) {
-        if (!got.equals(want)) {
-            wrong++;
-            System.out.println(what + ": changed the state from\n  " + want + "\nto\n  " + got);
-        }
+    /** What a lot is owed of the two tokens once it is settled. */
+    static void settled(String what, Pool pool, int[] lot, long zero, long one) {
+        due(what + ": settling", pool.burn(lot[0], lot[1], lot[2], 0), 0);
+        owed(what, pool, lot, zero, one);
+    }
+
+    static void owed(String what, Pool pool, int[] lot, long zero, long one) {
+        due(what + ": owed of token 0", pool.lot(lot[0], lot[1], lot[2], 1), zero);
+        due(what + ": owed of token 1", pool.lot(lot[0], lot[1], lot[2], 2), one);
     }
 }

@@ -9,6 +9,9 @@ import java.util.TreeSet;
 
 /** The public face as it stands in the document; no call throws; no call but the constructor makes objects. */
 public final class FaceTest {
+    private static final int[] WILD =
+        {Integer.MIN_VALUE, -1000000000, -25, -1, 0, 1, 25, 1000000000, Integer.MAX_VALUE};
+    private static final int ROUNDS = 24;
     private static final Set<String> FACE = Set.of(
         "CLOSED = -1", "BAD = -2", "NO_LOT = -3", "FULL = -4", "POOR = -5", "OLD = -1000000000",
         "public RangedPool(int,int)",
@@ -68,12 +71,12 @@ public final class FaceTest {
         }
     }
 
-    /** Wild numbers, and far more calls than the document allows: a thrown exception ends the test. */
+    /** Wild numbers: a thrown exception ends the test. */
     private static void wildCalls() {
         Random random = new Random(99);
-        for (int run = 0; run < 40; run++) {
+        for (int run = 0; run < 400; run++) {
             RangedPool pool = new RangedPool(wild(random), wild(random));
-            for (int i = 0; i < 5000; i++) {
+            for (int i = 0; i < Pool.MOST_CALLS; i++) {
                 anyCall(pool, random);
             }
         }
@@ -82,7 +85,7 @@ public final class FaceTest {
     private static int wild(Random random) {
         switch (random.nextInt(12)) {
             case 0:
-                return Check.WILD[random.nextInt(Check.WILD.length)];
+                return WILD[random.nextInt(WILD.length)];
             case 1:
                 return random.nextInt();
             case 2:
@@ -146,16 +149,22 @@ public final class FaceTest {
 
     private static void makesNoObjects() {
         com.sun.management.ThreadMXBean threads = (com.sun.management.ThreadMXBean) ManagementFactory.getThreadMXBean();
-        RangedPool pool = Check.richPool(1, 3, 0);
+        RangedPool pool = new RangedPool(1, 3);
+        pool.open(0);
+        for (int owner = 0; owner < 4; owner++) {
+            pool.fund(owner, 0, 1000000000);
+            pool.fund(owner, 1, 1000000000);
+        }
         oneRound(pool);
         long before = threads.getCurrentThreadAllocatedBytes();
-        for (int i = 0; i < 50; i++) {
+        for (int i = 0; i < ROUNDS; i++) {
             oneRound(pool);
         }
         long made = threads.getCurrentThreadAllocatedBytes() - before;
-        Check.yes(made + " bytes made: less than the smallest object a round", made < 50 * 16);
+        Check.yes(made + " bytes made: less than the smallest object a round", made < ROUNDS * 16);
     }
 
+    /** 18 calls. */
     private static long oneRound(RangedPool pool) {
         long all = pool.mint(0, -4, 4, 50000) + pool.mint(1, -8, 2, 5000);
         all += pool.swap(2, true, 20000, -24) + pool.quote(false, 20000, 24) + pool.swap(2, false, -20000, 24);

@@ -1,43 +1,78 @@
 /** Promise 6: collect. */
 public final class Promise06CollectTest {
+    private static final int[] LOT = {2, -1, 1};
+
     public static void main(String[] args) {
         pays();
-        doesNotSettle();
+        owedNothing();
+        notSettledBefore();
+        goesWhenEmpty();
         aNewLotStartsFresh();
-        codes();
+        answers();
+        closed();
+        noLot();
         Check.end();
     }
 
     private static void pays() {
-        RangedPool pool = Check.richPool(1, 3, 0);
+        Check.sentence("What the lot is owed goes from the reserves to its owner's wallet.");
+        Pool pool = Check.richPool(1, 3, 0);
         pool.mint(2, -1, 1, 65536);
-        pool.burn(2, -1, 1, 65536);
-        long zero = pool.wallet(2, 0);
-        long one = pool.wallet(2, 1);
-        Check.due("collect", pool.collect(2, -1, 1), Check.pair(1598, 1599));
-        Check.due("wallet 0", pool.wallet(2, 0), zero + 1598);
-        Check.due("wallet 1", pool.wallet(2, 1), one + 1599);
-        Check.due("rounded up when it came, down when it went", pool.reserve(0), 1);
-        Check.due("reserve 1", pool.reserve(1), 0);
-        Check.due("gone", pool.lot(2, -1, 1, 0), RangedPool.NO_LOT);
-        Check.due("gone", pool.collect(2, -1, 1), RangedPool.NO_LOT);
+        pool.mint(3, -1, 1, 65536);
+        pool.burn(2, -1, 1, 65000);
+        pool.burn(3, -1, 1, 65536);
+        Check.due("collect", pool.collect(2, -1, 1), Check.pair(1584, 1585));
+        Check.due("wallet 0", pool.wallet(2, 0), 1000000000 - 1599 + 1584);
+        Check.due("wallet 1", pool.wallet(2, 1), 1000000000 - 1599 + 1585);
+        Check.due("reserve 0", pool.reserve(0), 2 * 1599 - 1584);
+        Check.due("reserve 1", pool.reserve(1), 2 * 1599 - 1585);
+        Check.owed("owed no more", pool, LOT, 0, 0);
+        Check.due("the liquidity stays", pool.lot(2, -1, 1, 0), 536);
+        Check.owed("the other lot", pool, new int[] {3, -1, 1}, 1598, 1599);
+        Check.due("the other wallet", pool.wallet(3, 0), 1000000000 - 1599);
     }
 
-    private static void doesNotSettle() {
-        RangedPool pool = Check.richPool(1, 100, 0);
-        pool.mint(0, -1, 1, 65536);
+    private static void owedNothing() {
+        Check.sentence("collect of a lot that is owed nothing");
+        Pool pool = Check.richPool(1, 3, 0);
+        pool.mint(2, -1, 1, 65536);
         pool.flash(1, 1000, 500);
-        Check.due("not settled", pool.collect(0, -1, 1), 0);
-        Check.due("with liquidity it stays", pool.lot(0, -1, 1, 0), 65536);
-        pool.burn(0, -1, 1, 0);
-        Check.due("settled", pool.collect(0, -1, 1), Check.pair(100, 50));
-        Check.due("owed no more", pool.lot(0, -1, 1, 1) + pool.lot(0, -1, 1, 2), 0);
-        Check.due("nothing more", pool.collect(0, -1, 1), 0);
+        pool.advance(1);
+        Check.unchanged("it has liquidity, and stays", pool, 0, x -> x.collect(2, -1, 1));
     }
 
-    /** Growth of a lot that is gone is gone too, also when it rose while the lot was only owed something. */
+    private static void notSettledBefore() {
+        Check.sentence("(It is not settled before.)");
+        Pool pool = Check.richPool(1, 100, 0);
+        pool.mint(2, -1, 1, 65536);
+        pool.flash(1, 1000, 500);
+        Check.due("not settled", pool.collect(2, -1, 1), 0);
+        Check.settled("the growth is still there", pool, LOT, 100, 50);
+        pool.flash(1, 30, 20);
+        Check.due("only what was settled", pool.collect(2, -1, 1), Check.pair(100, 50));
+        Check.owed("owed no more", pool, LOT, 0, 0);
+        Check.settled("the later growth", pool, LOT, 3, 2);
+    }
+
+    private static void goesWhenEmpty() {
+        Check.sentence("A lot is gone when it has no liquidity and is owed nothing. (by collect)");
+        Pool pool = Check.richPool(1, 3, 0);
+        pool.mint(0, 1, 2, 1000);
+        pool.mint(0, -2, -1, 1000);
+        pool.burn(0, 1, 2, 1000);
+        pool.burn(0, -2, -1, 1000);
+        Check.owed("owed token 0 alone", pool, new int[] {0, 1, 2}, 23, 0);
+        Check.owed("owed token 1 alone", pool, new int[] {0, -2, -1}, 0, 23);
+        Check.due("token 0 alone", pool.collect(0, 1, 2), Check.pair(23, 0));
+        Check.due("token 1 alone", pool.collect(0, -2, -1), Check.pair(0, 23));
+        Check.refused("gone", pool, RangedPool.NO_LOT, x -> x.collect(0, 1, 2));
+        Check.refused("gone", pool, RangedPool.NO_LOT, x -> x.collect(0, -2, -1));
+    }
+
+    /** The growth of a lot that is gone is gone too, also what rose while the lot was only owed something. */
     private static void aNewLotStartsFresh() {
-        RangedPool pool = Check.richPool(1, 100, 0);
+        Check.sentence("A lot is gone; mint: a new one, if it is not there");
+        Pool pool = Check.richPool(1, 100, 0);
         pool.mint(0, -2, 2, 1024);
         pool.mint(1, -1, 1, 1000);
         pool.burn(1, -1, 1, 1000);
@@ -45,25 +80,47 @@ public final class Promise06CollectTest {
         pool.collect(1, -1, 1);
         pool.flash(0, 40, 40);
         pool.mint(1, -1, 1, 1000);
-        pool.burn(1, -1, 1, 0);
-        Check.due("owed 0", pool.lot(1, -1, 1, 1), 0);
-        Check.due("owed 1", pool.lot(1, -1, 1, 2), 0);
-        pool.burn(0, -2, 2, 0);
-        Check.due("all went to the other", pool.lot(0, -2, 2, 1), 8);
+        Check.settled("the new lot", pool, new int[] {1, -1, 1}, 0, 0);
+        Check.settled("all went to the other", pool, new int[] {0, -2, 2}, 8, 8);
     }
 
-    private static void codes() {
-        RangedPool closed = new RangedPool(1, 3);
-        Check.due("CLOSED", closed.collect(0, -1, 1), RangedPool.CLOSED);
-        RangedPool pool = Check.richPool(1, 3, 0);
+    private static void answers() {
+        Check.sentence("collect: Answers the amounts, as mint does.");
+        Pool pool = Check.richPool(1, 3, -24);
+        for (int i = 0; i < 20; i++) {
+            pool.mint(2, -24, 24, 1000000);
+            pool.burn(2, -24, 24, 1000000);
+        }
+        Check.due("20 times the most of token 0", pool.collect(2, -24, 24), Check.pair(20 * 1256293, 0));
+        pool = Check.richPool(1, 3, 24);
+        for (int i = 0; i < 20; i++) {
+            pool.mint(2, -24, 24, 1000000);
+            pool.burn(2, -24, 24, 1000000);
+        }
+        Check.due("20 times the most of token 1", pool.collect(2, -24, 24), Check.pair(0, 20 * 1255783));
+    }
+
+    private static void closed() {
+        Check.sentence("collect: CLOSED");
+        Check.refused("before NO_LOT", new Pool(1, 3), RangedPool.CLOSED, x -> x.collect(0, -1, 1));
+    }
+
+    private static void noLot() {
+        Check.sentence("collect: NO_LOT");
+        Pool pool = Check.richPool(1, 3, 0);
+        Check.refused("no lots at all", pool, RangedPool.NO_LOT, x -> x.collect(0, 0, 0));
         pool.mint(0, -1, 1, 1000);
         pool.burn(0, -1, 1, 500);
-        String before = Check.state(pool, new int[] {-1, 1});
-        Check.due("another owner", pool.collect(1, -1, 1), RangedPool.NO_LOT);
-        Check.due("no owner", pool.collect(4, -1, 1), RangedPool.NO_LOT);
-        Check.due("another lo", pool.collect(0, -2, 1), RangedPool.NO_LOT);
-        Check.due("another hi", pool.collect(0, -1, 2), RangedPool.NO_LOT);
-        Check.due("no range", pool.collect(0, 1, -1), RangedPool.NO_LOT);
-        Check.same("codes", Check.state(pool, new int[] {-1, 1}), before);
+        Check.refused("another owner", pool, RangedPool.NO_LOT, x -> x.collect(1, -1, 1));
+        Check.refused("another lo", pool, RangedPool.NO_LOT, x -> x.collect(0, -2, 1));
+        Check.refused("another hi", pool, RangedPool.NO_LOT, x -> x.collect(0, -1, 2));
+        Check.refused("no range", pool, RangedPool.NO_LOT, x -> x.collect(0, 1, -1));
+        for (int owner : Check.NO_OWNERS) {
+            Check.refused("no owner", pool, RangedPool.NO_LOT, x -> x.collect(owner, -1, 1));
+        }
+        for (int step : Check.NO_STEPS) {
+            Check.refused("no step, lo", pool, RangedPool.NO_LOT, x -> x.collect(0, step, 1));
+            Check.refused("no step, hi", pool, RangedPool.NO_LOT, x -> x.collect(0, -1, step));
+        }
     }
 }

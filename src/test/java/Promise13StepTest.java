@@ -1,47 +1,57 @@
 /** Promise 13: step. */
 public final class Promise13StepTest {
     public static void main(String[] args) {
-        RangedPool pool = new RangedPool(1, 0);
-        Check.due("not open", pool.step(), 0);
-        pool.open(-7);
-        Check.due("open", pool.step(), -7);
-        everyPrice();
-        aStepThatIsNoLongerMarked();
+        notOpen();
+        everyPriceUpwards();
+        everyPriceDownwards();
+        lowestAndHighest();
         Check.end();
     }
 
-    /** The greatest step whose price is at most the price, at every price between steps -2 and 2. */
-    private static void everyPrice() {
-        RangedPool pool = Check.richPool(1, 0, -2);
+    private static void notOpen() {
+        Check.sentence("step: 0 when the pool is not open");
+        Pool pool = new Pool(1, 0);
+        Check.due("at first", pool.step(), 0);
+        pool.advance(5);
+        pool.open(-25);
+        Check.unchanged("still", pool, 0, RangedPool::step);
+        pool.open(-7);
+        Check.unchanged("open", pool, -7, RangedPool::step);
+    }
+
+    private static Pool wideAt(int step) {
+        Pool pool = Check.richPool(1, 0, step);
         pool.mint(0, -24, 24, 65536);
+        return pool;
+    }
+
+    /** One token more is one price more. */
+    private static void everyPriceUpwards() {
+        Check.sentence("step: c, at every price from step -2 up to step 2");
         for (int price = 62378; price <= 68853; price++) {
-            pool.swap(0, false, 1, 24);
-            Check.due("price", pool.price(), price);
+            Pool pool = wideAt(-2);
+            pool.swap(0, false, price - 62377, 24);
             int step = price >= 68853 ? 2 : price >= 67174 ? 1 : price >= 65536 ? 0 : price >= 63937 ? -1 : -2;
-            Check.due("step at " + price, pool.step(), step);
-        }
-        for (int price = 68852; price >= 62377; price--) {
-            pool.swap(0, true, -1, -24);
-            Check.due("price", pool.price(), price);
-            int step = price >= 67174 ? 1 : price >= 65536 ? 0 : price >= 63937 ? -1 : -2;
-            Check.due("step down at " + price, pool.step(), step);
+            Check.at("up to " + price, pool, price, step);
         }
     }
 
-    /** The step stays below its price until the price changes. */
-    private static void aStepThatIsNoLongerMarked() {
-        RangedPool pool = Check.richPool(1, 3, 1);
-        pool.mint(0, 0, 2, 1000);
-        pool.swap(0, true, 1000000, 0);
-        Check.due("crossed", pool.step(), -1);
-        pool.burn(0, 0, 2, 1000);
-        Check.due("still below", pool.step(), -1);
-        pool.mint(0, -1, 1, 1000);
-        pool.swap(0, false, 1, 24);
-        Check.due("price", pool.price(), 65536);
-        Check.due("the price has not changed", pool.step(), -1);
-        pool.swap(0, false, 2, 24);
-        Check.due("price", pool.price(), 65601);
-        Check.due("it has", pool.step(), 0);
+    private static void everyPriceDownwards() {
+        Check.sentence("step: c, at every price from step 2 down to step -2");
+        for (int price = 68852; price >= 62377; price--) {
+            Pool pool = wideAt(2);
+            pool.swap(0, true, price - 68853, -24);
+            int step = price >= 67174 ? 1 : price >= 65536 ? 0 : price >= 63937 ? -1 : -2;
+            Check.at("down to " + price, pool, price, step);
+        }
+    }
+
+    private static void lowestAndHighest() {
+        Check.sentence("step: c, -25 .. 24");
+        Pool pool = wideAt(0);
+        pool.swap(0, true, 1000000, -24);
+        Check.unchanged("below the marked step -24", pool, -25, RangedPool::step);
+        pool.swap(0, false, 1000000, 24);
+        Check.unchanged("at the marked step 24", pool, 24, RangedPool::step);
     }
 }

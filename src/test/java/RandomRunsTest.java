@@ -1,14 +1,20 @@
 import java.util.List;
 import java.util.Random;
 
-/** Runs of 512 calls, drawn with fixed seeds, on RangedPool and on the Model; the whole state is compared. */
+/**
+ * Runs drawn with fixed seeds, on RangedPool and on the Model; every answer is compared. No run goes beyond 512 calls:
+ * after as many calls as are drawn, the rest of the 512 asks for the whole state, and empties the pool.
+ */
 public final class RandomRunsTest {
-    private static final int RUNS = 400;
-    private static final int CALLS = 512;
+    private static final int RUNS = 3000;
+    /** What comparing the state and emptying the pool can need. */
+    private static final int LAST_CALLS = 190;
+    private static final int[] WILD =
+        {Integer.MIN_VALUE, -1000000000, -25, -1, 0, 1, 25, 1000000000, Integer.MAX_VALUE};
 
     private final Random random;
     private final int run;
-    private final RangedPool pool;
+    private final Pool pool;
     private final Model model;
     private final int spacing;
     /** Small numbers in some runs, so that every rounding and every poor wallet comes up. */
@@ -24,7 +30,7 @@ public final class RandomRunsTest {
         int fee = random.nextInt(3) == 0 ? random.nextInt(104) - 1 : new int[] {0, 3, 10, 100}[random.nextInt(4)];
         spacing = drawn == 5 || drawn == 0 ? 1 : drawn;
         scale = new int[] {10, 1000, 100000, 1000000}[random.nextInt(4)];
-        pool = new RangedPool(drawn, fee);
+        pool = new Pool(drawn, fee);
         model = new Model(drawn, fee);
     }
 
@@ -36,16 +42,16 @@ public final class RandomRunsTest {
     }
 
     private void go() {
-        for (int i = 0; i < CALLS; i++) {
-            if (i == 5) {
-                int step = step();
-                call = "open(" + step + ")";
-                compare(pool.open(step), model.open(step));
+        int openAfter = random.nextInt(12);
+        int calls = random.nextInt(Pool.MOST_CALLS - LAST_CALLS);
+        for (int i = 0; pool.callsLeft() > Pool.MOST_CALLS - calls; i++) {
+            if (i == openAfter) {
+                open();
             } else {
-                oneCall(random.nextInt(100));
+                oneCall(random.nextInt(110));
             }
-            compareState();
         }
+        compareState();
         closeDown();
     }
 
@@ -66,11 +72,33 @@ public final class RandomRunsTest {
             advance();
         } else if (kind < 98) {
             observe();
+        } else if (kind < 100) {
+            open();
         } else {
-            int step = step();
-            call = "open(" + step + ")";
-            compare(model.price() == 0 ? false : pool.open(step), model.price() == 0 ? false : model.open(step));
+            ask();
         }
+    }
+
+    private void open() {
+        int step = step();
+        call = "open(" + step + ")";
+        compare(pool.open(step), model.open(step));
+    }
+
+    private void ask() {
+        int owner = owner();
+        int token = random.nextInt(4) - 1;
+        int[] name = lotName();
+        int what = random.nextInt(5) - 1;
+        int step = step();
+        call = "questions";
+        compare(pool.price(), model.price());
+        compare(pool.step(), model.step());
+        compare(pool.depth(), model.depth());
+        compare(pool.wallet(owner, token), model.wallet(owner, token));
+        compare(pool.reserve(token), model.reserve(token));
+        compare(pool.lot(name[0], name[1], name[2], what), model.lot(name[0], name[1], name[2], what));
+        compare(pool.net(step), model.net(step));
     }
 
     private int step() {
@@ -92,7 +120,7 @@ public final class RandomRunsTest {
     private int amount(int most) {
         int kind = random.nextInt(30);
         if (kind == 0) {
-            return Check.WILD[random.nextInt(Check.WILD.length)];
+            return WILD[random.nextInt(WILD.length)];
         }
         return kind < 8 ? random.nextInt(5) : random.nextInt(Math.min(scale, most) + 2);
     }
@@ -146,7 +174,6 @@ public final class RandomRunsTest {
         int limit = random.nextInt(3) == 0 ? rangeEnd() : random.nextInt(3) == 0 ? step() : down ? -24 : 24;
         call = "quote(" + down + ", " + amount + ", " + limit + ")";
         compare(pool.quote(down, amount, limit), model.quote(down, amount, limit));
-        compareState();
         call = "swap(" + owner + ", " + down + ", " + amount + ", " + limit + ")";
         compare(pool.swap(owner, down, amount, limit), model.swap(owner, down, amount, limit));
     }
@@ -175,15 +202,13 @@ public final class RandomRunsTest {
         compare(pool.observe(ago), model.observe(ago));
     }
 
-    /** Every lot can be paid out: the roundings favour the pool. */
+    /** Every lot can be paid out, and no token comes or goes: the roundings favour the pool. */
     private void closeDown() {
         for (int[] name : model.lotNames()) {
-            long has = pool.lot(name[0], name[1], name[2], 0);
+            int has = (int) model.lot(name[0], name[1], name[2], 0);
             call = "the last burn and collect";
-            compare(pool.burn(name[0], name[1], name[2], (int) has), model.burn(name[0], name[1], name[2], (int) has));
-            pool.collect(name[0], name[1], name[2]);
-            model.collect(name[0], name[1], name[2]);
-            compareState();
+            compare(pool.burn(name[0], name[1], name[2], has), model.burn(name[0], name[1], name[2], has));
+            compare(pool.collect(name[0], name[1], name[2]), model.collect(name[0], name[1], name[2]));
         }
         for (int token = 0; token < 2; token++) {
             long held = pool.reserve(token);
@@ -208,23 +233,26 @@ public final class RandomRunsTest {
     }
 
     private void compareState() {
-        Check.due(where() + "price", pool.price(), model.price());
-        Check.due(where() + "step", pool.step(), model.step());
-        Check.due(where() + "depth", pool.depth(), model.depth());
-        for (int token = -1; token < 3; token++) {
-            Check.due(where() + "reserve", pool.reserve(token), model.reserve(token));
-            for (int owner = -1; owner < 5; owner++) {
-                Check.due(where() + "wallet", pool.wallet(owner, token), model.wallet(owner, token));
+        call = "the state";
+        compare(pool.price(), model.price());
+        compare(pool.step(), model.step());
+        compare(pool.depth(), model.depth());
+        for (int token = 0; token < 2; token++) {
+            compare(pool.reserve(token), model.reserve(token));
+            for (int owner = 0; owner < 4; owner++) {
+                compare(pool.wallet(owner, token), model.wallet(owner, token));
             }
         }
         for (int[] name : model.lotNames()) {
-            for (int what = -1; what < 4; what++) {
-                Check.due(where() + "lot", pool.lot(name[0], name[1], name[2], what),
-                    model.lot(name[0], name[1], name[2], what));
+            for (int what = 0; what < 3; what++) {
+                compare(pool.lot(name[0], name[1], name[2], what), model.lot(name[0], name[1], name[2], what));
             }
         }
-        for (int step = -26; step <= 26; step++) {
-            Check.due(where() + "net", pool.net(step), model.net(step));
+        for (int step = -24; step <= 24; step++) {
+            compare(pool.net(step), model.net(step));
+        }
+        for (int ago = 0; ago < 50; ago += 1 + ago / 8) {
+            compare(pool.observe(ago), model.observe(ago));
         }
     }
 }
