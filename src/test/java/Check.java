@@ -15,9 +15,14 @@ final class Check {
     private Check() {
     }
 
-    /** The sentence of the document that is tested from here on; it is told with every wrong answer. */
-    static void sentence(String text) {
-        sentence = text;
+    /** The words of the document that are tested from here on; they are told with every wrong answer. */
+    static void sentence(String words) {
+        sentence = "\"" + words + "\"";
+    }
+
+    /** The same, where several tests share the words. */
+    static void sentence(String words, String which) {
+        sentence = "\"" + words + "\" (" + which + ")";
     }
 
     static void due(String what, long got, long want) {
@@ -37,7 +42,6 @@ final class Check {
     /** The call answers this code (0 for false), and every answer that the face can show is the same behind it. */
     static void refused(String what, Pool pool, long code, Pool.Call call) {
         unchanged(what, pool, code, call);
-        yes(what + ": is a code, or false", code <= 0);
     }
 
     /** The call answers this, and every answer that the face can show is the same behind it. */
@@ -52,7 +56,7 @@ final class Check {
 
     private static void fail(String text) {
         wrong++;
-        System.out.println("\"" + sentence + "\"\n  " + text);
+        System.out.println(sentence.isEmpty() ? text : sentence + "\n  " + text);
     }
 
     static void end() {

@@ -49,7 +49,7 @@ public final class CodesTest {
     }
 
     private static void emptyPool() {
-        Check.sentence("A call that answers a code below 0, or false, changes nothing. (an empty pool)");
+        Check.sentence("A call that answers a code below 0, or false, changes nothing.", "an empty pool");
         Pool pool = Check.openPool(1, 3, 0);
         Check.refused("open", pool, 0, x -> x.open(0) ? 1 : 0);
         Check.refused("mint", pool, RangedPool.POOR, x -> x.mint(0, -1, 1, 1));
@@ -63,7 +63,7 @@ public final class CodesTest {
 
     /** 10 lots, some of them with growth, some owed something, one without liquidity; 8 marks; owners 2 and 3 are poor. */
     private static Pool busyPool() {
-        Check.sentence("A call that answers a code below 0, or false, changes nothing. (a full pool)");
+        Check.sentence("A call that answers a code below 0, or false, changes nothing.", "a full pool");
         Pool pool = new Pool(2, 30);
         pool.advance(5);
         pool.open(1);

@@ -139,7 +139,7 @@ public final class Promise04MintTest {
     }
 
     private static void closed() {
-        Check.sentence("mint: CLOSED");
+        Check.sentence("CLOSED: the pool is not open.", "mint");
         Pool pool = new Pool(1, 3);
         pool.fund(0, 0, 1000000);
         pool.fund(0, 1, 1000000);
@@ -149,7 +149,7 @@ public final class Promise04MintTest {
     }
 
     private static void badOwner() {
-        Check.sentence("BAD when there is no such owner or range: owner");
+        Check.sentence("BAD when there is no such owner or range", "owner");
         Pool pool = Check.richPool(1, 3, 0);
         for (int owner : Check.NO_OWNERS) {
             Check.refused("owner " + owner, pool, RangedPool.BAD, x -> x.mint(owner, -2, 2, 1));
@@ -159,7 +159,7 @@ public final class Promise04MintTest {
     }
 
     private static void badRange() {
-        Check.sentence("BAD when there is no such owner or range: range");
+        Check.sentence("BAD when there is no such owner or range", "range");
         Pool pool = Check.richPool(2, 3, 0);
         int[][] ranges = {{0, 0}, {2, 0}, {24, -24}, {24, 24}, {-26, 0}, {0, 26}, {-25, 24}, {-24, 25}, {24, 26}, {-26, -24},
             {1, 2}, {0, 1}, {-1, 2}, {-2, -1}, {-1, 1}, {Integer.MIN_VALUE, 0}, {0, Integer.MAX_VALUE},
@@ -221,7 +221,7 @@ public final class Promise04MintTest {
     }
 
     private static void poor() {
-        Check.sentence("mint: POOR");
+        Check.sentence("POOR.", "mint");
         Pool pool = Check.openPool(1, 3, 0);
         pool.fund(0, 0, 25);
         pool.fund(0, 1, 24);
@@ -240,7 +240,7 @@ public final class Promise04MintTest {
     }
 
     private static void firstCode() {
-        Check.sentence("mint: the first code that its comment names is answered");
+        Check.sentence("Where several codes would do, the first that its comment names is answered.", "mint");
         Pool closed = new Pool(1, 3);
         Check.refused("CLOSED before BAD", closed, RangedPool.CLOSED, x -> x.mint(9, 9, 9, 0));
         Check.refused("CLOSED before POOR", closed, RangedPool.CLOSED, x -> x.mint(0, -1, 1, 1));

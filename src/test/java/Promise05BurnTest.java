@@ -36,7 +36,7 @@ public final class Promise05BurnTest {
 
     /** The price is 66536, between P(0) and P(1); then P(0) with step -1. */
     private static void byPlace() {
-        Check.sentence("as for mint: c below lo, c hi or more, otherwise");
+        Check.sentence("as for mint, but rounded down", "by place");
         Pool pool = Check.richPool(1, 0, 0);
         pool.mint(0, -24, 24, 65536);
         pool.swap(0, false, 1000, 24);
@@ -86,7 +86,7 @@ public final class Promise05BurnTest {
     }
 
     private static void allOfIt() {
-        Check.sentence("A lot is gone when it has no liquidity and is owed nothing. (by burn)");
+        Check.sentence("A lot is gone when it has no liquidity and is owed nothing.", "by burn");
         Pool pool = Check.richPool(1, 3, 0);
         pool.mint(0, -1, 1, 5);
         Check.due("worth nothing, all but 1", pool.burn(0, -1, 1, 4), 0);
@@ -108,13 +108,13 @@ public final class Promise05BurnTest {
     }
 
     private static void closed() {
-        Check.sentence("burn: CLOSED");
+        Check.sentence("CLOSED: the pool is not open.", "burn");
         Pool pool = new Pool(1, 3);
         Check.refused("not open", pool, RangedPool.CLOSED, x -> x.burn(0, -1, 1, 0));
     }
 
     private static void noLot() {
-        Check.sentence("burn: NO_LOT");
+        Check.sentence("`NO_LOT = -3`: There is no such lot.", "burn");
         Pool pool = Check.richPool(1, 3, 0);
         Check.refused("no lots at all", pool, RangedPool.NO_LOT, x -> x.burn(0, -1, 1, 0));
         Check.refused("no lots at all, all 0", pool, RangedPool.NO_LOT, x -> x.burn(0, 0, 0, 0));
@@ -149,7 +149,7 @@ public final class Promise05BurnTest {
     }
 
     private static void firstCode() {
-        Check.sentence("burn: the first code that its comment names is answered");
+        Check.sentence("Where several codes would do, the first that its comment names is answered.", "burn");
         Pool closed = new Pool(1, 3);
         Check.refused("CLOSED before NO_LOT and BAD", closed, RangedPool.CLOSED, x -> x.burn(9, 9, 9, -1));
         Pool pool = Check.richPool(1, 3, 0);

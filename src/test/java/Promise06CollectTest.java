@@ -33,7 +33,7 @@ public final class Promise06CollectTest {
     }
 
     private static void owedNothing() {
-        Check.sentence("collect of a lot that is owed nothing");
+        Check.sentence("What the lot is owed goes from the reserves to its owner's wallet.", "nothing");
         Pool pool = Check.richPool(1, 3, 0);
         pool.mint(2, -1, 1, 65536);
         pool.flash(1, 1000, 500);
@@ -55,7 +55,7 @@ public final class Promise06CollectTest {
     }
 
     private static void goesWhenEmpty() {
-        Check.sentence("A lot is gone when it has no liquidity and is owed nothing. (by collect)");
+        Check.sentence("A lot is gone when it has no liquidity and is owed nothing.", "by collect");
         Pool pool = Check.richPool(1, 3, 0);
         pool.mint(0, 1, 2, 1000);
         pool.mint(0, -2, -1, 1000);
@@ -71,7 +71,7 @@ public final class Promise06CollectTest {
 
     /** The growth of a lot that is gone is gone too, also what rose while the lot was only owed something. */
     private static void aNewLotStartsFresh() {
-        Check.sentence("A lot is gone; mint: a new one, if it is not there");
+        Check.sentence("A lot is gone when it has no liquidity and is owed nothing.", "a new one starts fresh");
         Pool pool = Check.richPool(1, 100, 0);
         pool.mint(0, -2, 2, 1024);
         pool.mint(1, -1, 1, 1000);
@@ -85,7 +85,7 @@ public final class Promise06CollectTest {
     }
 
     private static void answers() {
-        Check.sentence("collect: Answers the amounts, as mint does.");
+        Check.sentence("Answers the amounts, as mint does.", "collect");
         Pool pool = Check.richPool(1, 3, -24);
         for (int i = 0; i < 20; i++) {
             pool.mint(2, -24, 24, 1000000);
@@ -101,12 +101,12 @@ public final class Promise06CollectTest {
     }
 
     private static void closed() {
-        Check.sentence("collect: CLOSED");
+        Check.sentence("CLOSED: the pool is not open.", "collect");
         Check.refused("before NO_LOT", new Pool(1, 3), RangedPool.CLOSED, x -> x.collect(0, -1, 1));
     }
 
     private static void noLot() {
-        Check.sentence("collect: NO_LOT");
+        Check.sentence("`NO_LOT = -3`: There is no such lot.", "collect");
         Pool pool = Check.richPool(1, 3, 0);
         Check.refused("no lots at all", pool, RangedPool.NO_LOT, x -> x.collect(0, 0, 0));
         pool.mint(0, -1, 1, 1000);

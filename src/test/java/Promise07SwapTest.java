@@ -11,6 +11,7 @@ public final class Promise07SwapTest {
         badAmount();
         badLimit();
         limitAtThePrice();
+        limitAtACrossedStep();
         poor();
         poorUpwards();
         whatWouldBePaid();
@@ -54,7 +55,7 @@ public final class Promise07SwapTest {
     }
 
     private static void closed() {
-        Check.sentence("swap: CLOSED");
+        Check.sentence("CLOSED: the pool is not open.", "swap");
         Pool pool = new Pool(1, 3);
         pool.fund(0, 0, 1000);
         pool.fund(0, 1, 1000);
@@ -63,7 +64,7 @@ public final class Promise07SwapTest {
     }
 
     private static void badOwner() {
-        Check.sentence("swap: BAD when there is no such owner");
+        Check.sentence("BAD when there is no such owner", "swap");
         Pool pool = wide(3);
         pool.advance(1);
         for (int owner : Check.NO_OWNERS) {
@@ -95,6 +96,9 @@ public final class Promise07SwapTest {
         }
         Check.yes("down to the lowest", pool.again().swap(1, DOWN, 5, -24) > 0);
         Check.yes("up to the highest", pool.again().swap(1, UP, 5, 24) > 0);
+        Pool spaced = Check.openPool(8, 3, 0);
+        Check.due("a limit need not be divisible by SPACING", spaced.swap(1, DOWN, 5, -3), 0);
+        Check.at("there", spaced, 60855, -3);
     }
 
     private static void limitAtThePrice() {
@@ -123,6 +127,19 @@ public final class Promise07SwapTest {
         Check.refused("no limit is above the highest", pool, RangedPool.BAD, x -> x.swap(1, UP, 5, 24));
     }
 
+    /** The price is P(0), the step -1: the price counts. */
+    private static void limitAtACrossedStep() {
+        Check.sentence("its price is not below p (downwards), above p (upwards)", "not the step's number");
+        Pool pool = Check.richPool(1, 0, 1);
+        pool.mint(0, 0, 2, 1000);
+        pool.swap(1, DOWN, 1000000, 0);
+        Check.at("crossed downwards", pool, 65536, -1);
+        Check.refused("up to 0", pool, RangedPool.BAD, x -> x.swap(1, UP, 5, 0));
+        Check.refused("down to 0", pool, RangedPool.BAD, x -> x.swap(1, DOWN, 5, 0));
+        Check.due("down to -1", pool.again().swap(1, DOWN, 5, -1), 0);
+        Check.due("up to 1", pool.again().swap(1, UP, 5, 1), Check.pair(5, 4));
+    }
+
     /** Of token 0 owner 1 has 1 less than the 1129 that are needed for 1000 of token 1. */
     private static void poor() {
         Check.sentence("POOR when the wallet has less than what would be paid in");
@@ -143,7 +160,7 @@ public final class Promise07SwapTest {
     }
 
     private static void poorUpwards() {
-        Check.sentence("POOR when the wallet has less than what would be paid in (upwards)");
+        Check.sentence("POOR when the wallet has less than what would be paid in", "upwards");
         Pool pool = Check.openPool(1, 100, 0);
         pool.fund(0, 0, 1000000);
         pool.fund(0, 1, 1000000);
@@ -160,7 +177,7 @@ public final class Promise07SwapTest {
 
     /** Down to step -1, 1639 are needed, whatever the amount is. */
     private static void whatWouldBePaid() {
-        Check.sentence("less than what would be paid in: the amount may be more");
+        Check.sentence("POOR when the wallet has less than what would be paid in", "the amount may be more");
         Pool pool = Check.openPool(1, 0, 0);
         pool.fund(0, 0, 29299);
         pool.fund(0, 1, 29313);
@@ -173,7 +190,7 @@ public final class Promise07SwapTest {
     }
 
     private static void paysNothing() {
-        Check.sentence("POOR: a swap without liquidity needs nothing");
+        Check.sentence("POOR when the wallet has less than what would be paid in", "a swap without liquidity needs nothing");
         Pool pool = Check.openPool(1, 100, 0);
         Check.due("down with empty wallets", pool.swap(0, DOWN, 1000000, -24), 0);
         Check.at("down", pool, 36223, -24);
@@ -183,7 +200,7 @@ public final class Promise07SwapTest {
 
     /** The way would lead over two marked steps, with a fee on each leg. */
     private static void refusedInTheMiddle() {
-        Check.sentence("A call that answers a code below 0, or false, changes nothing. (POOR after several legs)");
+        Check.sentence("A call that answers a code below 0, or false, changes nothing.", "POOR after several legs");
         Pool pool = Check.openPool(1, 100, 0);
         pool.fund(0, 0, 1000000);
         pool.fund(0, 1, 1000000);
@@ -200,7 +217,7 @@ public final class Promise07SwapTest {
     }
 
     private static void firstCode() {
-        Check.sentence("swap: the first code that its comment names is answered");
+        Check.sentence("Where several codes would do, the first that its comment names is answered.", "swap");
         Check.refused("CLOSED before BAD", new Pool(1, 3), RangedPool.CLOSED, x -> x.swap(9, DOWN, 0, 99));
         Pool pool = Check.openPool(1, 3, 0);
         pool.fund(0, 0, 1000000);

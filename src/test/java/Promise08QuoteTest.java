@@ -45,7 +45,7 @@ public final class Promise08QuoteTest {
     }
 
     private static void forAnOwnerWithEnough() {
-        Check.sentence("for an owner with enough: there need be none");
+        Check.sentence("for an owner with enough", "there need be none");
         Pool pool = Check.openPool(1, 0, 0);
         pool.fund(0, 0, 29299);
         pool.fund(0, 1, 29313);
@@ -75,13 +75,13 @@ public final class Promise08QuoteTest {
     }
 
     private static void closed() {
-        Check.sentence("quote: CLOSED");
+        Check.sentence("CLOSED: the pool is not open.", "quote");
         Check.refused("down", new Pool(1, 3), RangedPool.CLOSED, x -> x.quote(true, 1, -24));
         Check.refused("up", new Pool(1, 3), RangedPool.CLOSED, x -> x.quote(false, 1, 24));
     }
 
     private static void badAmount() {
-        Check.sentence("quote: BAD as for swap: the amount is 0 or not -1000000 .. 1000000");
+        Check.sentence("BAD as for swap.", "quote: the amount");
         Pool pool = ranged();
         for (int amount : new int[] {0, 1000001, -1000001, Integer.MIN_VALUE, Integer.MAX_VALUE}) {
             Check.refused("down " + amount, pool, RangedPool.BAD, x -> x.quote(true, amount, -24));
@@ -94,7 +94,7 @@ public final class Promise08QuoteTest {
     }
 
     private static void badLimit() {
-        Check.sentence("quote: BAD as for swap: limit is not -24 .. 24");
+        Check.sentence("BAD as for swap.", "quote: the limit");
         Pool pool = ranged();
         for (int limit : Check.NO_STEPS) {
             Check.refused("down to " + limit, pool, RangedPool.BAD, x -> x.quote(true, 5, limit));
@@ -102,10 +102,11 @@ public final class Promise08QuoteTest {
         }
         Check.yes("down to the lowest", pool.quote(true, 5, -24) > 0);
         Check.yes("up to the highest", pool.quote(false, 5, 24) > 0);
+        Check.due("not divisible by SPACING", Check.openPool(8, 3, 0).quote(true, 5, -3), 0);
     }
 
     private static void limitAtThePrice() {
-        Check.sentence("quote: BAD as for swap: its price is not below p (downwards), above p (upwards)");
+        Check.sentence("BAD as for swap.", "quote: the limit's price");
         Pool pool = ranged();
         Check.refused("down to the price", pool, RangedPool.BAD, x -> x.quote(true, 5, 0));
         Check.refused("down to a higher one", pool, RangedPool.BAD, x -> x.quote(true, 5, 1));
@@ -117,10 +118,16 @@ public final class Promise08QuoteTest {
         Check.due("the price is above P(0)", pool.step(), 0);
         Check.yes("down to 0", pool.quote(true, 5, 0) > 0);
         Check.refused("up to 0", pool, RangedPool.BAD, x -> x.quote(false, 5, 0));
+        Pool crossed = Check.richPool(1, 0, 1);
+        crossed.mint(0, 0, 2, 1000);
+        crossed.swap(1, true, 1000000, 0);
+        Check.at("crossed downwards", crossed, 65536, -1);
+        Check.refused("up to the price, a step above", crossed, RangedPool.BAD, x -> x.quote(false, 5, 0));
+        Check.due("down to the step, a price below", crossed.quote(true, 5, -1), 0);
     }
 
     private static void firstCode() {
-        Check.sentence("quote: the first code that its comment names is answered");
+        Check.sentence("Where several codes would do, the first that its comment names is answered.", "quote");
         Check.refused("CLOSED before BAD", new Pool(1, 3), RangedPool.CLOSED, x -> x.quote(true, 0, 99));
     }
 }

@@ -38,7 +38,7 @@ public final class Promise09FlashTest {
     }
 
     private static void everyFee() {
-        Check.sentence("a fee of a * FEE / 1000, FEE 0 .. 100");
+        Check.sentence("with a fee of a * FEE / 1000 rounded up", "FEE 0 .. 100");
         Check.due("FEE 0", wide(0).flash(1, 1000, 400000), 0);
         for (int fee = 1; fee <= 100; fee++) {
             Check.due("FEE " + fee, wide(fee).flash(1, 1000, 1), Check.pair(fee, 1));
@@ -89,7 +89,7 @@ public final class Promise09FlashTest {
     }
 
     private static void noMark() {
-        Check.sentence("a mark of time is made by swap, mint or burn: not by flash");
+        Check.sentence("one at the beginning of every swap, mint or burn that is done", "not of a flash");
         Pool pool = wide(3);
         for (int i = 0; i < 20; i++) {
             pool.advance(1);
@@ -99,14 +99,14 @@ public final class Promise09FlashTest {
     }
 
     private static void closed() {
-        Check.sentence("flash: CLOSED");
+        Check.sentence("CLOSED: the pool is not open.", "flash");
         Pool pool = new Pool(1, 3);
         pool.fund(0, 0, 1000);
         Check.refused("not open", pool, RangedPool.CLOSED, x -> x.flash(0, 0, 0));
     }
 
     private static void badOwner() {
-        Check.sentence("flash: BAD when there is no such owner");
+        Check.sentence("BAD when there is no such owner", "flash");
         Pool pool = wide(3);
         for (int owner : Check.NO_OWNERS) {
             Check.refused("owner " + owner, pool, RangedPool.BAD, x -> x.flash(owner, 1, 1));
@@ -146,7 +146,7 @@ public final class Promise09FlashTest {
     }
 
     private static void noDepth() {
-        Check.sentence("flash: BAD when DEPTH is 0");
+        Check.sentence("or DEPTH is 0", "flash");
         Pool pool = Check.richPool(1, 3, 0);
         Check.refused("no lots", pool, RangedPool.BAD, x -> x.flash(0, 0, 0));
         pool.mint(0, 1, 2, 1000);
@@ -176,7 +176,7 @@ public final class Promise09FlashTest {
     }
 
     private static void borrowedIsNoWallet() {
-        Check.sentence("POOR when the wallet has not got the fees (what is borrowed goes back)");
+        Check.sentence("POOR when the wallet has not got the fees", "what is borrowed goes back");
         Pool pool = Check.openPool(1, 100, 0);
         pool.fund(0, 0, 1000000);
         pool.fund(0, 1, 1000000);
@@ -186,7 +186,7 @@ public final class Promise09FlashTest {
     }
 
     private static void firstCode() {
-        Check.sentence("flash: the first code that its comment names is answered");
+        Check.sentence("Where several codes would do, the first that its comment names is answered.", "flash");
         Check.refused("CLOSED before BAD", new Pool(1, 3), RangedPool.CLOSED, x -> x.flash(9, -1, -1));
         Pool pool = Check.openPool(1, 100, 0);
         pool.fund(0, 0, 25);

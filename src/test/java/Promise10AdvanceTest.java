@@ -62,7 +62,7 @@ public final class Promise10AdvanceTest {
     }
 
     private static void forALongTime() {
-        Check.sentence("The clock makes n ticks, at most 512 times 10000");
+        Check.sentence("The clock makes n ticks.", "as often as can be");
         Pool pool = Check.openPool(1, 3, -24);
         for (int i = 0; i < 500; i++) {
             pool.advance(10000);

@@ -32,7 +32,7 @@ public final class Promise11ObserveTest {
     }
 
     private static void changesNothing() {
-        Check.sentence("observe only asks");
+        Check.sentence("The SUM as it was ago ticks before.", "it only asks");
         Pool pool = Check.openPool(1, 3, 2);
         pool.advance(5);
         Check.unchanged("observe", pool, 4, x -> x.observe(3));
@@ -40,7 +40,7 @@ public final class Promise11ObserveTest {
     }
 
     private static void closed() {
-        Check.sentence("observe: CLOSED");
+        Check.sentence("CLOSED: the pool is not open.", "observe");
         Pool pool = new Pool(1, 3);
         Check.refused("at first", pool, RangedPool.CLOSED, x -> x.observe(0));
         pool.advance(9);
@@ -75,7 +75,7 @@ public final class Promise11ObserveTest {
     }
 
     private static void oldWhenMarksGo() {
-        Check.sentence("before the oldest of the marks of time, which may go");
+        Check.sentence("OLD when that was before the oldest of the marks of time.", "marks go");
         Pool pool = Check.openPool(1, 3, 0);
         for (int i = 1; i <= 7; i++) {
             pool.advance(10);
@@ -104,7 +104,7 @@ public final class Promise11ObserveTest {
     }
 
     private static void firstCode() {
-        Check.sentence("observe: the first code that its comment names is answered");
+        Check.sentence("Where several codes would do, the first that its comment names is answered.", "observe");
         Check.refused("CLOSED before BAD", new Pool(1, 3), RangedPool.CLOSED, x -> x.observe(-1));
         Check.refused("CLOSED before OLD", new Pool(1, 3), RangedPool.CLOSED, x -> x.observe(5));
     }

@@ -8,7 +8,7 @@ public final class Promise12PriceTest {
     }
 
     private static void notOpen() {
-        Check.sentence("price: 0 when the pool is not open");
+        Check.sentence("p; 0 when the pool is not open.", "not open");
         Pool pool = new Pool(1, 0);
         Check.due("at first", pool.price(), 0);
         pool.advance(5);
@@ -18,7 +18,7 @@ public final class Promise12PriceTest {
     }
 
     private static void isP() {
-        Check.sentence("price: p");
+        Check.sentence("p; 0 when the pool is not open.", "open");
         Pool pool = Check.richPool(1, 0, 3);
         Check.due("open", pool.price(), 70574);
         pool.mint(0, 0, 6, 65536);
@@ -35,7 +35,7 @@ public final class Promise12PriceTest {
     }
 
     private static void staysOtherwise() {
-        Check.sentence("price: only a swap moves it");
+        Check.sentence("p; 0 when the pool is not open.", "only a swap moves it");
         Pool pool = Check.richPool(1, 3, 3);
         pool.mint(0, 0, 6, 65536);
         Check.due("mint", pool.price(), 70574);

@@ -9,7 +9,7 @@ public final class Promise13StepTest {
     }
 
     private static void notOpen() {
-        Check.sentence("step: 0 when the pool is not open");
+        Check.sentence("c; 0 when the pool is not open.", "not open");
         Pool pool = new Pool(1, 0);
         Check.due("at first", pool.step(), 0);
         pool.advance(5);
@@ -27,7 +27,7 @@ public final class Promise13StepTest {
 
     /** One token more is one price more. */
     private static void everyPriceUpwards() {
-        Check.sentence("step: c, at every price from step -2 up to step 2");
+        Check.sentence("c; 0 when the pool is not open.", "every price from step -2 up to step 2");
         for (int price = 62378; price <= 68853; price++) {
             Pool pool = wideAt(-2);
             pool.swap(0, false, price - 62377, 24);
@@ -37,7 +37,7 @@ public final class Promise13StepTest {
     }
 
     private static void everyPriceDownwards() {
-        Check.sentence("step: c, at every price from step 2 down to step -2");
+        Check.sentence("c; 0 when the pool is not open.", "every price from step 2 down to step -2");
         for (int price = 68852; price >= 62377; price--) {
             Pool pool = wideAt(2);
             pool.swap(0, true, price - 68853, -24);
@@ -47,7 +47,7 @@ public final class Promise13StepTest {
     }
 
     private static void lowestAndHighest() {
-        Check.sentence("step: c, -25 .. 24");
+        Check.sentence("c; 0 when the pool is not open.", "-25 and 24");
         Pool pool = wideAt(0);
         pool.swap(0, true, 1000000, -24);
         Check.unchanged("below the marked step -24", pool, -25, RangedPool::step);

@@ -9,7 +9,7 @@ public final class Promise14DepthTest {
     }
 
     private static void empty() {
-        Check.sentence("depth: DEPTH, without lots");
+        Check.sentence("DEPTH.", "without lots");
         Pool pool = new Pool(1, 3);
         Check.due("not open", pool.depth(), 0);
         pool.open(0);
@@ -17,7 +17,7 @@ public final class Promise14DepthTest {
     }
 
     private static void isDepth() {
-        Check.sentence("depth: DEPTH");
+        Check.sentence("DEPTH.", "with lots");
         Pool pool = Check.richPool(1, 3, 0);
         pool.mint(0, 0, 1, 1);
         Check.due("lo is in range", pool.depth(), 1);
@@ -34,7 +34,7 @@ public final class Promise14DepthTest {
     }
 
     private static void afterSwaps() {
-        Check.sentence("depth: DEPTH, after swaps");
+        Check.sentence("DEPTH.", "after swaps");
         Pool pool = Check.richPool(1, 3, 0);
         pool.mint(0, -1, 1, 700);
         pool.mint(3, 1, 2, 10000);
@@ -49,7 +49,7 @@ public final class Promise14DepthTest {
     }
 
     private static void theMost() {
-        Check.sentence("depth: DEPTH, the most");
+        Check.sentence("DEPTH.", "the most");
         Pool pool = Check.richPool(1, 3, 0);
         for (int i = 1; i <= 10; i++) {
             pool.mint(0, -i, i, 100000);

@@ -22,7 +22,7 @@ public final class Promise15WalletTest {
     }
 
     private static void ofOneOwnerOnly() {
-        Check.sentence("How many of a token are in a wallet, after calls of several owners");
+        Check.sentence("How many of a token are in a wallet", "calls of several owners");
         Pool pool = Check.richPool(1, 100, 0);
         pool.mint(1, -1, 1, 65536);
         pool.flash(2, 10, 20);
@@ -35,7 +35,7 @@ public final class Promise15WalletTest {
     }
 
     private static void noOwner() {
-        Check.sentence("wallet: BAD when there is no such owner");
+        Check.sentence("BAD when there is no such owner or token.", "wallet: owner");
         Pool pool = Check.richPool(1, 3, 0);
         for (int owner : Check.NO_OWNERS) {
             Check.refused("owner " + owner, pool, RangedPool.BAD, x -> x.wallet(owner, 0));
@@ -46,7 +46,7 @@ public final class Promise15WalletTest {
     }
 
     private static void noToken() {
-        Check.sentence("wallet: BAD when there is no such token");
+        Check.sentence("BAD when there is no such owner or token.", "wallet: token");
         Pool pool = Check.richPool(1, 3, 0);
         for (int token : Check.NO_TOKENS) {
             Check.refused("token " + token, pool, RangedPool.BAD, x -> x.wallet(0, token));

@@ -8,7 +8,7 @@ public final class Promise16ReserveTest {
     }
 
     private static void empty() {
-        Check.sentence("The reserve of a token, of a new pool");
+        Check.sentence("The reserve of a token", "of a new pool");
         Pool pool = new Pool(1, 3);
         due(pool, "nothing", 0, 0);
         pool.fund(0, 0, 5);
@@ -41,7 +41,7 @@ public final class Promise16ReserveTest {
     }
 
     private static void noToken() {
-        Check.sentence("reserve: BAD when there is no such token");
+        Check.sentence("BAD when there is no such token.", "reserve");
         Pool pool = Check.richPool(1, 3, 0);
         pool.mint(1, -1, 1, 65536);
         for (int token : Check.NO_TOKENS) {

@@ -44,7 +44,7 @@ public final class Promise17LotTest {
     }
 
     private static void none() {
-        Check.sentence("Of the lot of an owner and a range; NO_LOT when there is none");
+        Check.sentence("NO_LOT when there is none", "another owner or range");
         Pool pool = Check.richPool(1, 3, 0);
         pool.mint(0, -1, 1, 1000);
         Check.refused("another owner", pool, RangedPool.NO_LOT, x -> x.lot(1, -1, 1, 0));
@@ -61,7 +61,7 @@ public final class Promise17LotTest {
     }
 
     private static void gone() {
-        Check.sentence("NO_LOT when there is none: a lot that is gone");
+        Check.sentence("NO_LOT when there is none", "a lot that is gone");
         Pool pool = Check.richPool(1, 100, 0);
         pool.mint(0, -1, 1, 65536);
         pool.burn(0, -1, 1, 65536);
@@ -82,7 +82,7 @@ public final class Promise17LotTest {
     }
 
     private static void firstCode() {
-        Check.sentence("lot: the first code that its comment names is answered");
+        Check.sentence("Where several codes would do, the first that its comment names is answered.", "lot");
         Pool pool = Check.richPool(1, 3, 0);
         Check.refused("not open", new Pool(1, 3), RangedPool.NO_LOT, x -> x.lot(0, -1, 1, 3));
         pool.mint(0, -1, 1, 1000);

@@ -10,7 +10,7 @@ public final class Promise18NetTest {
     }
 
     private static void empty() {
-        Check.sentence("net without lots");
+        Check.sentence("The sum of the liquidity of the lots with this lo, less that of those with this hi.", "no lots");
         Pool pool = new Pool(1, 3);
         Check.due("not open", pool.net(0), 0);
         pool.open(0);
@@ -35,7 +35,7 @@ public final class Promise18NetTest {
     }
 
     private static void changes() {
-        Check.sentence("The sum of the liquidity, after burn, collect and swap");
+        Check.sentence("The sum of the liquidity of the lots with this lo, less that of those with this hi.", "after burn, collect and swap");
         Pool pool = Check.richPool(1, 3, 0);
         pool.mint(0, 3, 5, 40000);
         pool.mint(1, 3, 5, 3000);
@@ -53,7 +53,7 @@ public final class Promise18NetTest {
     }
 
     private static void theMost() {
-        Check.sentence("The sum of the liquidity, the most");
+        Check.sentence("The sum of the liquidity of the lots with this lo, less that of those with this hi.", "the most");
         Pool pool = Check.richPool(1, 3, 0);
         for (int i = 0; i < 10; i++) {
             Check.yes("lot " + i, pool.mint(i % 4, -24, 24 - i / 4, 100000) > 0);
@@ -68,7 +68,7 @@ public final class Promise18NetTest {
     }
 
     private static void noStep() {
-        Check.sentence("net of what is no step");
+        Check.sentence("The sum of the liquidity of the lots with this lo, less that of those with this hi.", "no step");
         Pool pool = Check.richPool(2, 3, 0);
         pool.mint(0, -24, 24, 7);
         for (int step : Check.NO_STEPS) {

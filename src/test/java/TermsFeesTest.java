@@ -35,7 +35,7 @@ public final class TermsFeesTest {
     }
 
     private static void growthRoundedDown() {
-        Check.sentence("the growth .. rises by f * 4294967296 / DEPTH rounded down");
+        Check.sentence("rises by f * 4294967296 / DEPTH rounded down.");
         for (int depth : new int[] {1, 2, 4, 1024, 4096}) {
             Pool pool = pool(depth);
             flash(pool, 1, 2);
@@ -49,7 +49,7 @@ public final class TermsFeesTest {
     }
 
     private static void growthAddsUp() {
-        Check.sentence("the growth that it has not yet settled");
+        Check.sentence("the GROWTH that it has not yet settled");
         Pool pool = pool(3);
         for (int i = 0; i < 10; i++) {
             flash(pool, 1, 2);
@@ -99,14 +99,14 @@ public final class TermsFeesTest {
     }
 
     private static void feeOfNothing() {
-        Check.sentence("When a FEE f of a token is taken: f may be 0");
+        Check.sentence("When a FEE f of a token is taken while DEPTH is not 0", "f is 0");
         Pool pool = pool(1024);
         Check.unchanged("flash of nothing", pool, 0, x -> x.flash(2, 0, 0));
         Check.settled("no growth", pool, LOT, 0, 0);
     }
 
     private static void noDepthInASwap() {
-        Check.sentence("(When DEPTH is 0, nobody gets it; it is in the reserve all the same.) In a swap");
+        Check.sentence("(When DEPTH is 0, nobody gets it; it is in the reserve all the same.)", "in a swap");
         Pool pool = Check.richPool(1, 100, 0);
         pool.mint(0, 2, 4, 65536);
         pool.mint(1, -4, -2, 65536);
@@ -128,7 +128,7 @@ public final class TermsFeesTest {
     }
 
     private static void noDepthInAFlash() {
-        Check.sentence("(When DEPTH is 0, nobody gets it; it is in the reserve all the same.) In a flash");
+        Check.sentence("(When DEPTH is 0, nobody gets it; it is in the reserve all the same.)", "in a flash");
         Pool pool = Check.richPool(1, 100, 0);
         pool.mint(0, 2, 4, 65536);
         Check.refused("no fee is taken", pool, RangedPool.BAD, x -> x.flash(2, 100, 0));
@@ -173,7 +173,7 @@ public final class TermsFeesTest {
 
     /** The growth of a lot without liquidity is worth nothing, also to what is put in later. */
     private static void settlingWithoutLiquidity() {
-        Check.sentence("growth * liquidity: there may be no liquidity");
+        Check.sentence("growth * liquidity / 4294967296, rounded down", "no liquidity");
         Pool pool = pool(1024, 1024);
         pool.burn(0, -1, 1, 1024);
         long owed = pool.lot(0, -1, 1, 1);
@@ -187,7 +187,7 @@ public final class TermsFeesTest {
 
     /** As much as can be: 1 in range, and the most borrowed again and again. */
     private static void mostGrowth() {
-        Check.sentence("f * 4294967296 / DEPTH, as high as it can be");
+        Check.sentence("rises by f * 4294967296 / DEPTH rounded down.", "as high as it can be");
         Pool pool = Check.richPool(1, 100, -24);
         pool.mint(0, -24, -23, 1);
         pool.mint(1, -23, 24, 999999);

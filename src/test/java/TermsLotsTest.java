@@ -83,7 +83,7 @@ public final class TermsLotsTest {
     }
 
     private static void endsOfRanges() {
-        Check.sentence("a range of steps, -24 .. 24");
+        Check.sentence("a range lo < hi of steps", "the lowest and the highest");
         for (int spacing : SPACINGS) {
             Pool pool = Check.richPool(spacing, 3, 0);
             Check.due("below the lowest", pool.mint(0, -24 - spacing, 0, 1), RangedPool.BAD);
@@ -156,7 +156,7 @@ public final class TermsLotsTest {
     }
 
     private static void goneMakesRoom() {
-        Check.sentence("A lot is gone: there may be another one in its place");
+        Check.sentence("A lot is gone when it has no liquidity and is owed nothing.", "another one in its place");
         for (int which = 1; which <= 10; which++) {
             Pool pool = Check.richPool(1, 3, 0);
             for (int i = 1; i <= 10; i++) {
@@ -176,7 +176,7 @@ public final class TermsLotsTest {
     }
 
     private static void stillOwed() {
-        Check.sentence("A lot that is owed something is there: mint adds to it");
+        Check.sentence("A lot is gone when it has no liquidity and is owed nothing.", "mint adds to one that is owed something");
         Pool pool = Check.richPool(1, 3, 0);
         pool.mint(0, -1, 1, 1000);
         pool.burn(0, -1, 1, 1000);
@@ -195,7 +195,7 @@ public final class TermsLotsTest {
     }
 
     private static void inRangeBelowItsPrice() {
-        Check.sentence("A lot is IN RANGE when lo <= c < hi: by c, not by p");
+        Check.sentence("A lot is IN RANGE when lo <= c < hi.", "by c, not by p");
         Pool pool = Check.richPool(1, 0, 1);
         pool.mint(0, 0, 2, 1000);
         pool.mint(1, -2, 0, 500);

@@ -66,7 +66,7 @@ public final class TermsPricesTest {
     }
 
     private static void lowestStep() {
-        Check.sentence("The pool has a PRICE p and a STEP c, -25 .. 24. (the lowest)");
+        Check.sentence("The pool has a PRICE p and a STEP c, -25 .. 24.", "the lowest");
         Pool pool = wide();
         pool.swap(1, true, 1000000, -24);
         Check.at("below a marked step -24", pool, 36223, -25);
@@ -81,7 +81,7 @@ public final class TermsPricesTest {
     }
 
     private static void highestStep() {
-        Check.sentence("The pool has a PRICE p and a STEP c, -25 .. 24. (the highest)");
+        Check.sentence("The pool has a PRICE p and a STEP c, -25 .. 24.", "the highest");
         Pool pool = wide();
         pool.swap(1, false, 1000000, 24);
         Check.at("at a marked step 24", pool, 118522, 24);
@@ -97,7 +97,7 @@ public final class TermsPricesTest {
 
     /** From P(0) to P(1), 33587 liquidity holds 819 of token 0 exactly. */
     private static void zeroRounded() {
-        Check.sentence("ZERO(a, b, w) is w * 65536 * (b - a) / (a * b), rounded up or down as is said");
+        Check.sentence("ZERO(a, b, w) is w * 65536 * (b - a) / (a * b)", "rounded up or down as is said");
         mintAndBurn(0, 1, 33586, Check.pair(819, 0), Check.pair(818, 0));
         mintAndBurn(0, 1, 33587, Check.pair(819, 0), Check.pair(819, 0));
         mintAndBurn(0, 1, 33588, Check.pair(820, 0), Check.pair(819, 0));
@@ -105,7 +105,7 @@ public final class TermsPricesTest {
 
     /** From P(-1) to P(0), 65536 liquidity holds 1599 of token 1 exactly. */
     private static void oneRounded() {
-        Check.sentence("ONE(a, b, w) is w * (b - a) / 65536, rounded up or down as is said");
+        Check.sentence("ONE(a, b, w) is w * (b - a) / 65536", "rounded up or down as is said");
         mintAndBurn(-1, 0, 65535, 1599, 1598);
         mintAndBurn(-1, 0, 65536, 1599, 1599);
         mintAndBurn(-1, 0, 65537, 1600, 1599);
@@ -118,7 +118,7 @@ public final class TermsPricesTest {
     }
 
     private static void samePrice() {
-        Check.sentence("For prices a <= b: a may be b");
+        Check.sentence("For prices a <= b and a liquidity w", "a is b");
         Pool pool = Check.richPool(1, 0, 0);
         Check.due("ONE(p, p)", pool.mint(0, 0, 24, 1000000) & 0xFFFFFFFFL, 0);
         Check.due("ONE(p, p), down", pool.burn(0, 0, 24, 500000) & 0xFFFFFFFFL, 0);
@@ -130,7 +130,7 @@ public final class TermsPricesTest {
     }
 
     private static void leastAndMost() {
-        Check.sentence("For a liquidity w, from 1 to 1000000");
+        Check.sentence("For prices a <= b and a liquidity w", "w is 1, and 1000000");
         mintAndBurn(-1, 1, 1, Check.pair(1, 1), 0);
         mintAndBurn(-24, 24, 1, Check.pair(1, 1), 0);
         mintAndBurn(-24, 24, 1000000, Check.pair(447057, 447281), Check.pair(447056, 447280));

@@ -26,6 +26,7 @@ public final class TermsSwapTest {
         feeIsTheRest();
         feeOfWhatIsIn();
         feeGoesToThisDepth();
+        feesOfSeveralLegs();
         amountComesNearer();
         stepAtTheNext();
         stepElsewhere();
@@ -207,7 +208,7 @@ public final class TermsSwapTest {
 
     /** From step 0, 750.01 must be paid in down to step -1, 749.8 up to step 1. */
     private static void fullIn() {
-        Check.sentence("FULL IN is what must be paid in .. rounded up. If u is FULL IN or more, the new price q is the target.");
+        Check.sentence("If u is FULL IN or more, the new price q is the target.", "FULL IN is rounded up");
         due(narrow(0, 30000), DOWN, 751, 751, 731, 63937, -2);
         due(narrow(0, 30000), DOWN, 750, 750, 731, 63938, -1);
         due(narrow(0, 30000), UP, 750, 750, 731, 67174, 1);
@@ -216,7 +217,7 @@ public final class TermsSwapTest {
 
     /** From step 0, 731.9 of token 1 go out down to step -1, 731.5 of token 0 up to step 1. */
     private static void fullOut() {
-        Check.sentence("FULL OUT what goes out on that way, rounded down. If v is FULL OUT or more, q is the target.");
+        Check.sentence("If v is FULL OUT or more, q is the target.", "FULL OUT is rounded down");
         due(narrow(0, 30000), DOWN, -731, 751, 731, 63937, -2);
         due(narrow(0, 30000), DOWN, -730, 749, 730, 63941, -1);
         due(narrow(0, 30000), UP, -731, 750, 731, 67174, 1);
@@ -333,6 +334,19 @@ public final class TermsSwapTest {
         dueTo(pool, DOWN, 1000000, -2, Check.pair(3360 + 374, 3120), 62377, -2);
         Check.settled("left behind", pool, new int[] {0, -1, 1}, 91, 0);
         Check.settled("all of it", pool, new int[] {0, -3, -1}, 374, 0);
+    }
+
+    /** The wide lot gets half of the first fee and all of the second. */
+    private static void feesOfSeveralLegs() {
+        Check.sentence("the fee is taken (DEPTH being w)", "on every leg");
+        Pool pool = pool(100, new int[] {-1, 1, 32768}, new int[] {-3, 1, 32768});
+        dueTo(pool, DOWN, 1000000, -3, Check.pair(1639 + 183 + 1702 + 190, 1599 + 1541), 60855, -4);
+        Check.settled("half", pool, new int[] {0, -1, 1}, 91, 0);
+        Check.settled("half, and all", pool, new int[] {0, -3, 1}, 281, 0);
+        pool = pool(100, new int[] {-1, 1, 32768}, new int[] {-1, 3, 32768});
+        dueTo(pool, UP, 1000000, 3, Check.pair(1638 + 182 + 1700 + 189, 1598 + 1540), 70574, 3);
+        Check.settled("half", pool, new int[] {0, -1, 1}, 0, 91);
+        Check.settled("half, and all", pool, new int[] {0, -1, 3}, 0, 91 + 189);
     }
 
     /** 1639 and a fee of 183 to step -1; beyond it 89 are worth 84, with a fee of 11 or 10. */

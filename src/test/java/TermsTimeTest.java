@@ -59,7 +59,7 @@ public final class TermsTimeTest {
     }
 
     private static void severalStepsAtOneTime() {
-        Check.sentence("at each tick the c at that time is added: the last of several");
+        Check.sentence("at each tick the c at that time is added", "the last of several");
         Pool pool = Check.openPool(1, 3, 5);
         pool.swap(0, true, 1, 2);
         pool.advance(2);
@@ -75,7 +75,7 @@ public final class TermsTimeTest {
     }
 
     private static void lowestStepCounts() {
-        Check.sentence("the sum of c, which may be -25");
+        Check.sentence("The SUM is the sum of c over all ticks", "c is -25");
         Pool pool = Check.richPool(1, 3, -24);
         pool.mint(0, -24, 24, 1000);
         pool.swap(0, false, 5, 24);
@@ -117,7 +117,7 @@ public final class TermsTimeTest {
     }
 
     private static void markOfSwap() {
-        Check.sentence("one at the beginning of every swap that is done");
+        Check.sentence("one at the beginning of every swap, mint or burn that is done", "swap");
         marks("down", true, rich(), x -> x.swap(0, true, 1, -24));
         marks("up", true, rich(), x -> x.swap(0, false, 1, 24));
         marks("out", true, rich(), x -> x.swap(0, true, -1, -24));
@@ -131,7 +131,7 @@ public final class TermsTimeTest {
     }
 
     private static void markOfMint() {
-        Check.sentence("one at the beginning of every mint that is done");
+        Check.sentence("one at the beginning of every swap, mint or burn that is done", "mint");
         marks("a lot that is there", true, rich(), x -> x.mint(0, -24, 24, 1));
         Pool pool = rich();
         for (int i = 1; i <= 8; i++) {
@@ -142,13 +142,13 @@ public final class TermsTimeTest {
     }
 
     private static void markOfBurn() {
-        Check.sentence("one at the beginning of every burn that is done");
+        Check.sentence("one at the beginning of every swap, mint or burn that is done", "burn");
         marks("some", true, rich(), x -> x.burn(0, -24, 24, 1));
         marks("only settling", true, rich(), x -> x.burn(0, -24, 24, 0));
     }
 
     private static void noOtherMarks() {
-        Check.sentence("a mark is made when the pool is opened, and at swap, mint or burn: at nothing else");
+        Check.sentence("one at the beginning of every swap, mint or burn that is done", "at nothing else");
         marks("fund", false, rich(), x -> x.fund(0, 0, 1) ? 1 : 0);
         marks("collect", false, rich(), x -> x.collect(0, -24, 24));
         marks("quote", false, rich(), x -> x.quote(true, 1, -24));
@@ -159,7 +159,7 @@ public final class TermsTimeTest {
     }
 
     private static void noMarkOfRefusedCalls() {
-        Check.sentence("every swap, mint or burn that is done");
+        Check.sentence("one at the beginning of every swap, mint or burn that is done", "refused calls");
         marks("open again", false, rich(), x -> x.open(0) ? 1 : 0);
         marks("swap, BAD", false, rich(), x -> x.swap(0, true, 0, -24));
         marks("mint, BAD", false, rich(), x -> x.mint(0, -24, 24, 0));
@@ -212,7 +212,7 @@ public final class TermsTimeTest {
     }
 
     private static void atMostEight() {
-        Check.sentence("MARKS of time, at most 8; the oldest goes when there would be 9");
+        Check.sentence("the oldest goes when there would be 9", "at most 8");
         Pool pool = Check.openPool(1, 3, 1);
         for (int mark = 2; mark <= 30; mark++) {
             pool.advance(10);
@@ -235,7 +235,7 @@ public final class TermsTimeTest {
     }
 
     private static void nineAtOneTimeAreOne() {
-        Check.sentence("the oldest goes when there would be 9: not when the newest was made at this time");
+        Check.sentence("the oldest goes when there would be 9", "not when the newest was made at this time");
         Pool pool = Check.openPool(1, 3, 0);
         for (int i = 1; i <= 7; i++) {
             pool.advance(10);
