@@ -39,12 +39,12 @@ final class Check {
         due(what, got ? 1 : 0, 0);
     }
 
-    /** The call answers this code (0 for false), and every answer that the face can show is the same behind it. */
+    /** The call answers this code (0 for false), and what the face can show is the same behind it. */
     static void refused(String what, Pool pool, long code, Pool.Call call) {
         unchanged(what, pool, code, call);
     }
 
-    /** The call answers this, and every answer that the face can show is the same behind it. */
+    /** The call answers this, and what the face can show is the same behind it. */
     static void unchanged(String what, Pool pool, long want, Pool.Call call) {
         View before = View.of(pool);
         due(what, pool.answer(call), want);

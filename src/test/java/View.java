@@ -2,8 +2,9 @@ import java.util.ArrayList;
 import java.util.List;
 
 /**
- * Every answer that the face can show after the calls of a pool: what can be asked at once, and what later calls
- * would answer, which shows growth not yet settled, the marks of time, and how much room there is for lots.
+ * What the face can show after the calls of a pool: what can be asked at once (of observe and quote, which have too
+ * many arguments, a choice), and what later calls would answer, which shows growth not yet settled, the marks of time,
+ * and how much room there is for lots.
  */
 final class View {
     private static final List<String> NAMES = new ArrayList<>();
