@@ -34,13 +34,14 @@ public final class FaceTest {
         "public int RangedPool.net(int)");
 
     public static void main(String[] args) throws IllegalAccessException {
-        face();
         wildCalls();
         makesNoObjects();
+        face();
         Check.end();
     }
 
     private static void face() throws IllegalAccessException {
+        Check.sentence("The public face");
         Set<String> found = new TreeSet<>();
         Set<String> publicNames = new TreeSet<>();
         for (Field field : RangedPool.class.getDeclaredFields()) {
@@ -68,6 +69,7 @@ public final class FaceTest {
         for (Class<?> inside : RangedPool.class.getDeclaredClasses()) {
             Check.yes(inside + " is static", Modifier.isStatic(inside.getModifiers()));
             Check.no(inside + " is public", Modifier.isPublic(inside.getModifiers()));
+            Check.no(inside + " is protected", Modifier.isProtected(inside.getModifiers()));
         }
     }
 

@@ -10,6 +10,8 @@ public final class TermsFeesTest {
         thisTokenOnly();
         feeOfNothing();
         noDepthInASwap();
+        noDepthInALotWithoutLiquidity();
+        noDepthBetweenTwoLots();
         noDepthInAFlash();
         settlingRoundsDown();
         settlingClearsGrowth();
@@ -105,6 +107,7 @@ public final class TermsFeesTest {
         Check.settled("no growth", pool, LOT, 0, 0);
     }
 
+    /** Without depth nothing must be paid in, so the fee is 0: the reserve rises by it, and no lot gets it. */
     private static void noDepthInASwap() {
         Check.sentence("(When DEPTH is 0, nobody gets it; it is in the reserve all the same.)", "in a swap");
         Pool pool = Check.richPool(1, 100, 0);
@@ -125,6 +128,44 @@ public final class TermsFeesTest {
         Check.settled("the lower gets all", pool, new int[] {1, -4, -2}, fee, 0);
         Check.settled("the upper nothing", pool, new int[] {0, 2, 4}, 0, 0);
         Check.due("reserve 0", pool.reserve(0), zero + in + fee);
+    }
+
+    /** The lot is in range and still owed something, but DEPTH is 0. */
+    private static void noDepthInALotWithoutLiquidity() {
+        Check.sentence("(When DEPTH is 0, nobody gets it; it is in the reserve all the same.)", "no liquidity");
+        Pool pool = Check.richPool(1, 100, 0);
+        pool.mint(0, -1, 1, 65536);
+        pool.burn(0, -1, 1, 65536);
+        Check.due("depth", pool.depth(), 0);
+        Check.due("up", pool.swap(1, false, 1000000, 1), 0);
+        Check.due("down", pool.swap(1, true, -1000000, -1), 0);
+        Check.due("up again", pool.swap(1, false, -1, 0), 0);
+        Check.due("reserve 0", pool.reserve(0), 1599);
+        Check.due("reserve 1", pool.reserve(1), 1599);
+        Check.settled("what it was owed before", pool, LOT, 1598, 1599);
+        pool.mint(0, -1, 1, 65536);
+        Check.settled("also when it has liquidity again", pool, LOT, 1598, 1599);
+    }
+
+    /** The way is over a lot, over a gap, and into the next lot. */
+    private static void noDepthBetweenTwoLots() {
+        Check.sentence("(When DEPTH is 0, nobody gets it; it is in the reserve all the same.)", "between two lots");
+        Pool pool = Check.richPool(1, 100, 0);
+        pool.mint(0, -1, 1, 65536);
+        pool.mint(1, 3, 4, 65536);
+        long zero = pool.reserve(0);
+        long one = pool.reserve(1);
+        long first = Check.one(65536, 67174, 65536, true);
+        long second = Check.one(70574, 72338, 65536, true);
+        long firstFee = (first + 8) / 9;
+        long secondFee = (second + 8) / 9;
+        long out = Check.zero(65536, 67174, 65536, false) + Check.zero(70574, 72338, 65536, false);
+        long paid = first + firstFee + second + secondFee;
+        Check.due("to step 4", pool.swap(2, false, 1000000, 4), Check.pair(paid, out));
+        Check.due("reserve 0", pool.reserve(0), zero - out);
+        Check.due("reserve 1", pool.reserve(1), one + paid);
+        Check.settled("the first", pool, LOT, 0, firstFee);
+        Check.settled("the second", pool, new int[] {1, 3, 4}, 0, secondFee);
     }
 
     private static void noDepthInAFlash() {

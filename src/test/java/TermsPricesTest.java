@@ -1,6 +1,7 @@
 /** The terms: prices and steps, and what lies between two prices. */
 public final class TermsPricesTest {
     public static void main(String[] args) {
+        squareRoot();
         priceOfStepZero();
         pricesAbove();
         pricesBelow();
@@ -18,6 +19,24 @@ public final class TermsPricesTest {
     private static int priceAt(int step) {
         Pool pool = Check.openPool(1, 3, step);
         return pool.price();
+    }
+
+    /** So few tokens move the price by less than 1 in 100; rounding the price is worth 16 tokens at most. */
+    private static void squareRoot() {
+        Check.sentence("65536 standing for 1 (it is the square root of what one token 0 is worth in tokens 1)");
+        for (int step = -20; step <= 20; step += 4) {
+            Pool pool = Check.richPool(1, 0, step);
+            pool.mint(0, -24, 24, 1000000);
+            double worth = Math.pow(pool.price() / 65536.0, 2);
+            near("5000 of token 0 at step " + step, pool.quote(true, 5000, -24), 5000 * worth);
+            near("5000 of token 1 at step " + step, pool.quote(false, 5000, 24), 5000 / worth);
+        }
+    }
+
+    private static void near(String what, long answer, double worth) {
+        Check.due(what + ": paid", answer >> 32, 5000);
+        long out = answer & 0xFFFFFFFFL;
+        Check.yes(what + " bring " + out + ", about " + worth, out < worth && out > worth * 0.98);
     }
 
     private static void priceOfStepZero() {
